@@ -1,0 +1,156 @@
+/** Promises 58 to 61: undo and the saved copy. */
+final class UndoTest {
+    private UndoTest() {
+    }
+
+    static void all() {
+        Check.test("promise 58", UndoTest::undoableCount);
+        Check.test("promise 59", UndoTest::undo);
+        Check.test("promise 59: every change", UndoTest::everyChange);
+        Check.test("promise 59: the ring", UndoTest::ring);
+        Check.test("promise 59: what undo leaves", UndoTest::leaves);
+        Check.test("promise 60", UndoTest::save);
+        Check.test("promise 61", UndoTest::restore);
+    }
+
+    private static void undoableCount() {
+        LetterRepository x = new LetterRepository();
+        for (int i = 1; i <= 10; i++) {
+            x.edit(0, 0, 'b');
+            Check.same("undoableCount", x.undoableCount(), Math.min(i, 8));
+        }
+        x.undo();
+        Check.same("undoableCount", x.undoableCount(), 7);
+        Check.index("refused", () -> x.edit(1, 0, 'b'));
+        Check.argument("malformed", () -> Check.run(x, "x"));
+        Check.state("failed", () -> Check.run(x, "archive;close 0"));
+        Check.same("exceptions are no changes", x.undoableCount(), 7);
+        x.save();
+        x.formatBranch(0);
+        x.isConsistent();
+        x.append('a');
+        Check.same("questions are no changes", x.undoableCount(), 7);
+        x.archive();
+        Check.same("archive", x.undoableCount(), 8);
+    }
+
+    private static void undo() {
+        LetterRepository x = new LetterRepository();
+        Check.state("nothing", () -> x.undo());
+        x.edit(0, 0, 'b');
+        x.commit(0, 1);
+        x.edit(0, 0, 'b');
+        Check.same("undo", x.undo(), 2);
+        Check.same("no effect", Check.branch(x, 0), "b0:1 baaaaaaa");
+        Check.same("undo", x.undo(), 1);
+        Check.same("before the commit", Check.branch(x, 0), "b0:0 Baaaaaaa");
+        Check.same("revisionCount", x.revisionCount(), 1);
+        x.edit(0, 1, 'c');
+        Check.same("undoableCount", x.undoableCount(), 2);
+        Check.same("undo", x.undo(), 1);
+        Check.same("undo", x.undo(), 0);
+        Check.same("as at first", Check.branch(x, 0), "b0:0 aaaaaaaa");
+        Check.state("nothing", () -> x.undo());
+    }
+
+    private static void undone(LetterRepository x, String call, Check.Body change) {
+        String before = Check.everything(x);
+        int count = x.undoableCount();
+        change.run();
+        Check.same("a change: " + call, x.undoableCount(), Math.min(count + 1, 8));
+        Check.same("undo " + call, x.undo(), Math.min(count, 7));
+        Check.same("undone " + call, Check.everything(x), before);
+        change.run();
+    }
+
+    private static void everyChange() {
+        LetterRepository x = new LetterRepository();
+        undone(x, "edit", () -> x.edit(0, 0, 'b'));
+        undone(x, "commit", () -> x.commit(0, 1));
+        undone(x, "edit", () -> x.edit(0, 1, 'c'));
+        undone(x, "revert", () -> x.revert(0));
+        undone(x, "revert", () -> x.revert(0));
+        undone(x, "createBranch", () -> x.createBranch(0));
+        undone(x, "run", () -> Check.run(x, "edit 11c;commit 1 2;branch 0;edit 20z;commit 2 3"));
+        undone(x, "merge", () -> x.merge(0, 1));
+        undone(x, "mergeKeeping", () -> x.mergeKeeping(1, 2, false));
+        undone(x, "closeBranch", () -> x.closeBranch(0));
+        undone(x, "reset", () -> x.reset(1, 0));
+        undone(x, "pick", () -> x.pick(1, 1));
+        undone(x, "addTag", () -> x.addTag('Q', 1));
+        undone(x, "removeTag", () -> x.removeTag('Q'));
+        undone(x, "archive", () -> x.archive());
+        Check.same("archived", x.isArchived(4), true);
+        x.undo();
+        Check.same("not archived", x.isArchived(4), false);
+    }
+
+    private static void ring() {
+        LetterRepository x = new LetterRepository();
+        String[] stores = new String[21];
+        for (int i = 0; i < 20; i++) {
+            stores[i] = Check.everything(x);
+            x.edit(0, i % 8, (char) ('b' + i));
+        }
+        stores[20] = Check.everything(x);
+        for (int i = 0; i < 8; i++) {
+            Check.state("a failed run spoils nothing", () -> Check.run(x, "edit 00z;close 0"));
+            Check.same("store", Check.everything(x), stores[20 - i]);
+            Check.same("undo", x.undo(), 7 - i);
+        }
+        Check.same("store", Check.everything(x), stores[12]);
+        Check.state("no more", () -> x.undo());
+    }
+
+    private static void leaves() {
+        LetterRepository x = new LetterRepository();
+        Check.run(x, "edit 00b");
+        x.save();
+        Check.argument("malformed", () -> Check.run(x, "ed"));
+        Check.state("failed", () -> Check.run(x, "archive;archive;close 0"));
+        x.append('e');
+        x.formatBranch(0);
+        x.undo();
+        Check.same("line", Check.line(x, 13), "b0:0 Baaaaaaa");
+        Check.same("errorPosition", x.errorPosition(), 2);
+        Check.same("failedCommand", x.failedCommand(), 2);
+        Check.same("buffer", x.append('d'), 2);
+        x.restore();
+        Check.same("saved copy", x.letterAt(0, 0), 'b');
+    }
+
+    private static void save() {
+        LetterRepository x = new LetterRepository();
+        Check.same("save", x.save(), 1);
+        Check.run(x, "edit 00b;commit 0 1;tag A 0");
+        Check.same("save", x.save(), 2);
+        String saved = Check.everything(x);
+        Check.run(x, "untag A;branch 0;edit 10q;reset 0 0;archive");
+        Check.same("restore", x.restore(), 2);
+        Check.same("the later copy", Check.everything(x), saved);
+    }
+
+    private static void restore() {
+        LetterRepository x = new LetterRepository();
+        Check.state("no copy", () -> x.restore());
+        Check.each(x, "edit 00b;commit 0 1;branch 0;edit 11c;commit 1 2;merge 01;tag T 3");
+        Check.run(x, "reset 0 0;edit 03q");
+        String saved = Check.everything(x);
+        Check.same("save", x.save(), 4);
+        Check.run(x, "revert 0;untag T;archive;close 1;edit 07z;commit 0 9");
+        Check.same("restore", x.restore(), 4);
+        Check.same("the copy", Check.everything(x), saved);
+        Check.same("undoableCount", x.undoableCount(), 0);
+        Check.state("no undo", () -> x.undo());
+        Check.run(x, "revert 0;edit 07y;commit 0 8");
+        Check.same("undoableCount", x.undoableCount(), 1);
+        Check.same("restore again", x.restore(), 4);
+        Check.same("the copy stays", Check.everything(x), saved);
+        x.formatRevision(0);
+        Check.type(x, "archiv");
+        x.restore();
+        Check.same("the line stays", Check.line(x, 14), "r0 aaaaaaaa @0");
+        Check.same("the buffer stays", x.append('e'), 7);
+        Check.same("run", x.run(), 1);
+    }
+}
