@@ -8,7 +8,7 @@ import java.util.Random;
 
 /** Long runs of calls, the same ones every time, on LetterRepository and on PlainRepository. */
 final class ModelTest {
-    private static final int RUNS = 1200;
+    private static final int RUNS = 3000;
     private static final int CALLS = 512;
 
     private final Random random;
@@ -42,27 +42,54 @@ final class ModelTest {
 
     private String run() {
         String wrong = "";
+        // a program takes many calls of append, so most runs have few of them
+        int programs = random.nextInt(3) == 0 ? 12 : 150;
         while (done < CALLS && wrong.isEmpty()) {
-            int kind = random.nextInt(20);
-            if (kind == 0) {
+            int kind = random.nextInt(10);
+            if (random.nextInt(programs) == 0) {
                 wrong = program();
-            } else if (kind < 11) {
+            } else if (kind < 3) {
+                wrong = revision();
+            } else if (kind < 5) {
                 wrong = call(change());
             } else {
-                wrong = call(methods.get(random.nextInt(methods.size())).getName());
+                wrong = call(question());
             }
         }
         return wrong;
     }
 
+    private String question() {
+        String name = methods.get(random.nextInt(methods.size())).getName();
+        return List.of("restore", "undo", "archive", "run").contains(name) ? change() : name;
+    }
+
+    /** Tries to make a revision: what chance alone would make seldom. */
+    private String revision() {
+        int branch = random.nextInt(plain.branchCount());
+        int other = random.nextInt(plain.branchCount());
+        if (random.nextBoolean()) {
+            String wrong = compare("edit", branch, random.nextInt(4), letter());
+            return wrong.isEmpty() ? compare("commit", branch, random.nextInt(10)) : wrong;
+        }
+        String wrong = compare("revert", branch);
+        wrong = wrong.isEmpty() ? compare("revert", other) : wrong;
+        wrong = wrong.isEmpty() ? compare("formatMerge", branch, other) : wrong;
+        wrong = wrong.isEmpty() ? compare("conflictAt", branch, other, random.nextInt(3)) : wrong;
+        wrong = wrong.isEmpty() ? compare("canMerge", branch, other) : wrong;
+        if (!wrong.isEmpty() || random.nextBoolean()) {
+            return wrong.isEmpty() ? compare("merge", branch, other) : wrong;
+        }
+        return compare("mergeKeeping", branch, other, random.nextBoolean());
+    }
+
     private String change() {
-        String[] names = {"edit", "edit", "edit", "edit", "commit", "commit", "commit", "createBranch", "createBranch",
-            "closeBranch", "merge", "merge", "mergeKeeping", "pick", "pick", "reset", "addTag", "revert", "undo",
-            "removeTag", "archive", "save", "restore"};
-        // save, restore and archive end much of what a run has built up, so they are rare
+        String[] names = {"edit", "edit", "edit", "commit", "createBranch", "closeBranch", "merge", "mergeKeeping",
+            "pick", "pick", "reset", "addTag", "revert", "removeTag", "undo", "archive", "save", "restore"};
         String name = names[random.nextInt(names.length)];
-        boolean isRare = List.of("restore", "archive", "undo").contains(name);
-        return isRare && random.nextInt(3) > 0 ? "edit" : name;
+        // these end much of what a run has built up
+        boolean isRare = List.of("restore", "archive", "undo", "closeBranch").contains(name);
+        return isRare && random.nextInt(3) > 0 ? "createBranch" : name;
     }
 
     private String program() {

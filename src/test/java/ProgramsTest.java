@@ -57,6 +57,8 @@ final class ProgramsTest {
         Check.same("tag", x.taggedRevision('A'), 7);
         Check.run(x, "reset 0 0;pick 0 1");
         Check.same("reset and pick", Check.branch(x, 0), "b0:0 aYaaaaaa");
+        Check.run(x, "close 1;pick 0 5");
+        Check.same("no branch has the revision's number", Check.branch(x, 0), "b0:0 TYaaaaaa");
         Check.run(x, "untag A;archive");
         Check.same("untag", x.tagCount(), 0);
         Check.same("archive", x.isArchived(7), true);

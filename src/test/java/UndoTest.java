@@ -9,8 +9,10 @@ final class UndoTest {
         Check.test("promise 59: every change", UndoTest::everyChange);
         Check.test("promise 59: the ring", UndoTest::ring);
         Check.test("promise 59: what undo leaves", UndoTest::leaves);
+        Check.test("promise 59: what was undone cannot be asked for", UndoTest::undoneIsGone);
         Check.test("promise 60", UndoTest::save);
         Check.test("promise 61", UndoTest::restore);
+        Check.test("promises 59 and 61: other revisions with the same numbers", UndoTest::sameNumbers);
     }
 
     private static void undoableCount() {
@@ -152,5 +154,49 @@ final class UndoTest {
         Check.same("the line stays", Check.line(x, 14), "r0 aaaaaaaa @0");
         Check.same("the buffer stays", x.append('e'), 7);
         Check.same("run", x.run(), 1);
+    }
+
+    private static void undoneIsGone() {
+        LetterRepository x = Check.after("edit 00b;commit 0 1;branch 0;edit 11c;commit 1 2");
+        x.merge(0, 1);
+        x.addTag('A', 3);
+        x.undo();
+        x.undo();
+        Check.element("firstParent", () -> x.firstParent(3));
+        Check.element("secondParent", () -> x.secondParent(3));
+        Check.element("authorOf", () -> x.authorOf(3));
+        Check.element("generation", () -> x.generation(3));
+        Check.element("letterIn", () -> x.letterIn(3, 0));
+        Check.element("isArchived", () -> x.isArchived(3));
+        Check.element("taggedRevision", () -> x.taggedRevision('A'));
+        Check.element("createBranch", () -> x.createBranch(3));
+        x.undo();
+        x.undo();
+        x.undo();
+        Check.index("head", () -> x.head(1));
+    }
+
+    /** A store whose revision 2 was saved as a merge, undone, and made once more as a commit. */
+    private static void sameNumbers() {
+        LetterRepository x = Check.after("edit 00b;commit 0 1;branch 0;edit 11c;commit 1 2;merge 01");
+        String saved = Check.everything(x);
+        x.save();
+        for (int i = 0; i < 6; i++) {
+            x.undo();
+        }
+        Check.same("revisionCount", x.revisionCount(), 1);
+        Check.each(x, "edit 07z;commit 0 7;edit 06y;commit 0 6;branch 0;edit 15q;commit 1 5");
+        String others = Check.everything(x);
+        Check.same("generation", x.generation(2), 2);
+        x.archive();
+        x.undo();
+        Check.same("undo", Check.everything(x), others);
+        x.restore();
+        Check.same("restore", Check.everything(x), saved);
+        Check.same("generation", x.generation(2), 1);
+        Check.same("ancestors", x.ancestorCount(3), 4);
+        Check.same("ancestors", x.ancestorCount(2), 2);
+        Check.same("origin", x.originOf(3, 7), 0);
+        Check.same("commonAncestor", x.commonAncestorBySets(1, 2), 0);
     }
 }
