@@ -13,7 +13,15 @@ public final class AllTests {
         StoreTest.all();
         ProgramsTest.all();
         UndoTest.all();
+        TermsTest.all();
+        GrammarTest.all();
+        ChangeBoundsTest.all();
+        RevisionBoundsTest.all();
+        BranchBoundsTest.all();
+        StoreBoundsTest.all();
+        UndoBoundsTest.all();
         ModelTest.all();
+        Sentences.compareWith(Path.of(args[0]));
         System.out.println("project: " + Check.passed + " passed, " + Check.failed + " failed");
         if (Check.failed != 0 || Check.passed == 0) {
             System.exit(1);

@@ -4,17 +4,19 @@ final class BranchesTest {
     }
 
     static void all() {
-        Check.test("promise 31", BranchesTest::branchCount);
-        Check.test("promise 32", BranchesTest::head);
-        Check.test("promise 33", BranchesTest::letterAt);
-        Check.test("promises 34 and 35", BranchesTest::edits);
+        Sentences.promise(31).test("Returns the number of branches.", BranchesTest::branchCount);
+        Sentences.promise(32).test("Returns the head of a branch.", BranchesTest::head);
+        Sentences.promise(33).test("Returns the letter in a field of the working document of a branch.",
+                BranchesTest::letterAt);
+        Sentences.promise(34).test("Returns whether a field of a branch is edited.", BranchesTest::edits);
         Check.test("promise 36", BranchesTest::branchByHead);
-        Check.test("promises 37 and 38", BranchesTest::conflicts);
+        Sentences.promise(38).test("Returns a field that would be a conflict, by its position among these fields.",
+                BranchesTest::conflicts);
         Check.test("promise 39", BranchesTest::canMerge);
         Check.test("promise 40", BranchesTest::mergedLetter);
         Check.test("promise 41", BranchesTest::canPick);
         Check.test("promise 42", BranchesTest::tagCount);
-        Check.test("promise 43", BranchesTest::taggedRevision);
+        Sentences.promise(43).test("Returns the revision to which a tag belongs.", BranchesTest::taggedRevision);
         Check.test("promise 44", BranchesTest::tagOf);
     }
 

@@ -4,21 +4,24 @@ final class ChangesTest {
     }
 
     static void all() {
-        Check.test("promise 1", ChangesTest::newObject);
-        Check.test("promise 2", ChangesTest::edit);
-        Check.test("promise 3", ChangesTest::revert);
-        Check.test("promise 4", ChangesTest::commit);
-        Check.test("promise 5", ChangesTest::createBranch);
-        Check.test("promise 6", ChangesTest::closeBranch);
-        Check.test("promise 7", ChangesTest::merge);
+        Sentences.promise(1).test("Creates a store with the root and the branch 0.", ChangesTest::newObject);
+        Sentences.promise(2).test("Puts a letter into a field of the working document of a branch.", ChangesTest::edit);
+        Sentences.promise(3).test("Makes the working document of a branch equal to the document of its head.",
+                ChangesTest::revert);
+        Sentences.promise(4).test("Makes a revision with the working document of a branch.", ChangesTest::commit);
+        Sentences.promise(5).test("Creates a branch with a revision as its head.", ChangesTest::createBranch);
+        Sentences.promise(6).test("Closes a branch.", ChangesTest::closeBranch);
+        Sentences.promise(7).test("Merges the head of another branch into a branch.", ChangesTest::merge);
         Check.test("promise 7 refusals", ChangesTest::mergeRefusals);
-        Check.test("promise 8", ChangesTest::mergeKeeping);
-        Check.test("promise 9", ChangesTest::pick);
+        Sentences.promise(8).test("Merges the head of another branch into a branch like merge, but each conflict "
+                + "gets the letter of one side.", ChangesTest::mergeKeeping);
+        Sentences.promise(9).test("Picks a revision into a branch.", ChangesTest::pick);
         Check.test("promise 9 refusals", ChangesTest::pickRefusals);
-        Check.test("promise 10", ChangesTest::reset);
-        Check.test("promise 11", ChangesTest::addTag);
-        Check.test("promise 12", ChangesTest::removeTag);
-        Check.test("promise 13", ChangesTest::archive);
+        Sentences.promise(10).test("Makes a revision the head of a branch, and its document the working document.",
+                ChangesTest::reset);
+        Sentences.promise(11).test("Adds a tag to a revision.", ChangesTest::addTag);
+        Sentences.promise(12).test("Removes a tag.", ChangesTest::removeTag);
+        Sentences.promise(13).test("Archives the store.", ChangesTest::archive);
     }
 
     private static void newObject() {

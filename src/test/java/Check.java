@@ -51,7 +51,7 @@ final class Check {
     }
 
     /** The exact class is asked for: one that the machine throws is a class below it. */
-    private static void throwing(String call, Class<?> due, Body body) {
+    static void throwing(String call, Class<?> due, Body body) {
         try {
             body.run();
         } catch (RuntimeException e) {

@@ -210,6 +210,9 @@ final class ModelTest {
     }
 
     private String compare(String name, Object... arguments) {
+        if (done >= CALLS) {
+            return "";
+        }
         done++;
         calls.append(name).append(List.of(arguments)).append(' ');
         Method method = null;

@@ -595,7 +595,7 @@ final class PlainRepository {
     }
 
     /** The beginnings of programs are told by the regular expression: it asks for more only where more could help. */
-    private static int errorIn(String text) {
+    static int errorIn(String text) {
         for (int length = 0; length <= text.length(); length++) {
             Matcher m = PROGRAM.matcher(text.substring(0, length));
             if (!m.matches() && !m.hitEnd()) {
@@ -603,6 +603,10 @@ final class PlainRepository {
             }
         }
         return text.length();
+    }
+
+    static boolean isProgram(String text) {
+        return PROGRAM.matcher(text).matches();
     }
 
     private static int number(String text, int from) {
@@ -632,7 +636,7 @@ final class PlainRepository {
     public int run() {
         String text = buffer;
         buffer = "";
-        if (!PROGRAM.matcher(text).matches()) {
+        if (!isProgram(text)) {
             errorPosition = errorIn(text);
             throw new IllegalArgumentException();
         }

@@ -8,15 +8,16 @@ final class ProgramsTest {
     }
 
     static void all() {
-        Check.test("promise 54", ProgramsTest::append);
-        Check.test("promise 55: every command", ProgramsTest::everyCommand);
+        Sentences.promise(54).test("Appends a character to the input buffer.", ProgramsTest::append);
+        Sentences.promise(55).test("Parses the contents of the input buffer as a program and executes it.",
+                ProgramsTest::everyCommand);
         Check.test("promise 55: all or none", ProgramsTest::allOrNone);
         Check.test("promise 55: the buffer is empty afterwards", ProgramsTest::emptyAfterwards);
         Check.test("promise 55: the longest program", ProgramsTest::longest);
         Check.test("promise 56: error positions", ProgramsTest::errorPositions);
         Check.test("promise 56: each sign of each command", ProgramsTest::eachSign);
-        Check.test("promise 56: stored", ProgramsTest::errorStored);
-        Check.test("promise 57", ProgramsTest::failedCommand);
+        Sentences.promise(56).test("Returns the stored error position.", ProgramsTest::errorStored);
+        Sentences.promise(57).test("Returns the stored index of a failed command.", ProgramsTest::failedCommand);
         Check.test("promise 57: commands that fail", ProgramsTest::failures);
     }
 

@@ -5,12 +5,15 @@ final class RevisionsTest {
 
     static void all() {
         Check.test("promise 14", RevisionsTest::revisionCount);
-        Check.test("promise 15", RevisionsTest::isArchived);
-        Check.test("promises 16 and 17", RevisionsTest::parents);
-        Check.test("promise 18", RevisionsTest::authorOf);
-        Check.test("promise 19", RevisionsTest::generation);
-        Check.test("promise 20", RevisionsTest::letterIn);
-        Check.test("promise 21", RevisionsTest::isAncestor);
+        Sentences.promise(15).test("Returns whether a revision is archived.", RevisionsTest::isArchived);
+        Sentences.promise(16).test("Returns the first parent of a revision.", RevisionsTest::parents);
+        Sentences.promise(17).test("Returns the second parent of a revision.", RevisionsTest::parents);
+        Sentences.promise(18).test("Returns the author of a revision.", RevisionsTest::authorOf);
+        Sentences.promise(19).test("Returns the generation of a revision.", RevisionsTest::generation);
+        Sentences.promise(20).test("Returns the letter in a field of the document of a revision.",
+                RevisionsTest::letterIn);
+        Sentences.promise(21).test("Returns whether a revision is an ancestor of another one.",
+                RevisionsTest::isAncestor);
         Check.test("promise 22", RevisionsTest::ancestorCount);
         Check.test("promises 23 and 24", RevisionsTest::commonAncestor);
         Check.test("promise 23 with two latest common ancestors", RevisionsTest::crossedMerges);
@@ -18,7 +21,7 @@ final class RevisionsTest {
         Check.test("promise 26", RevisionsTest::differences);
         Check.test("promises 27 and 28", RevisionsTest::origins);
         Check.test("promises 22 to 28 on the longest chain", RevisionsTest::longestChain);
-        Check.test("promise 29", RevisionsTest::revisionsBy);
+        Sentences.promise(29).test("Returns the number of revisions of an author.", RevisionsTest::revisionsBy);
         Check.test("promise 30", RevisionsTest::busiestAuthor);
     }
 

@@ -7,7 +7,9 @@ final class StoreTest {
         Check.test("promises 45 and 46", StoreTest::usedCount);
         Check.test("promise 47", StoreTest::meanGeneration);
         Check.test("promise 48", StoreTest::archivedShare);
-        Check.test("promise 49", StoreTest::isConsistent);
+        Sentences.promise(49).test("Checks the store: commonAncestor and commonAncestorBySets agree for all pairs of "
+                + "heads, originOf and originByRecursion agree for all fields of all heads, usedCount and "
+                + "usedCountByMarks agree, and no archived revision is in use.", StoreTest::isConsistent);
         Check.test("promise 50", StoreTest::formatRevision);
         Check.test("promise 51", StoreTest::formatBranch);
         Check.test("promise 52", StoreTest::formatMerge);

@@ -4,7 +4,7 @@ final class UndoTest {
     }
 
     static void all() {
-        Check.test("promise 58", UndoTest::undoableCount);
+        Sentences.promise(58).test("Returns the number of changes that can be undone.", UndoTest::undoableCount);
         Check.test("promise 59", UndoTest::undo);
         Check.test("promise 59: every change", UndoTest::everyChange);
         Check.test("promise 59: the ring", UndoTest::ring);
@@ -55,52 +55,49 @@ final class UndoTest {
         Check.state("nothing", () -> x.undo());
     }
 
-    private static void undone(LetterRepository x, String call, Check.Body change) {
-        String before = Check.everything(x);
-        int count = x.undoableCount();
-        change.run();
-        Check.same("a change: " + call, x.undoableCount(), Math.min(count + 1, 8));
-        Check.same("undo " + call, x.undo(), Math.min(count, 7));
-        Check.same("undone " + call, Check.everything(x), before);
-        change.run();
+    private static void everyChange() {
+        Refused.Call[] changes = {x -> x.edit(0, 0, 'b'), x -> x.commit(0, 1), x -> x.edit(0, 1, 'c'),
+            x -> x.revert(0), x -> x.revert(0), x -> x.createBranch(0),
+            x -> Check.run(x, "edit 11c;commit 1 2;branch 0;edit 20z;commit 2 3"), x -> x.merge(0, 1),
+            x -> x.mergeKeeping(1, 2, false), x -> x.closeBranch(0), x -> x.reset(1, 0), x -> x.pick(1, 1),
+            x -> x.addTag('Q', 1), x -> x.removeTag('Q'), x -> x.archive()};
+        for (int count = 0; count < changes.length; count++) {
+            LetterRepository x = new LetterRepository();
+            for (int i = 0; i < count; i++) {
+                changes[i].on(x);
+            }
+            String before = Refused.content(x);
+            changes[count].on(x);
+            Check.same("undoableCount after change " + count, x.undoableCount(), Math.min(count + 1, 8));
+            boolean isArchived = x.revisionCount() > 4 && x.isArchived(4);
+            Check.same("only the last one archives", isArchived, count == changes.length - 1);
+            Check.same("undo change " + count, x.undo(), Math.min(count, 7));
+            Check.same("undone change " + count, Refused.content(x), before);
+        }
     }
 
-    private static void everyChange() {
-        LetterRepository x = new LetterRepository();
-        undone(x, "edit", () -> x.edit(0, 0, 'b'));
-        undone(x, "commit", () -> x.commit(0, 1));
-        undone(x, "edit", () -> x.edit(0, 1, 'c'));
-        undone(x, "revert", () -> x.revert(0));
-        undone(x, "revert", () -> x.revert(0));
-        undone(x, "createBranch", () -> x.createBranch(0));
-        undone(x, "run", () -> Check.run(x, "edit 11c;commit 1 2;branch 0;edit 20z;commit 2 3"));
-        undone(x, "merge", () -> x.merge(0, 1));
-        undone(x, "mergeKeeping", () -> x.mergeKeeping(1, 2, false));
-        undone(x, "closeBranch", () -> x.closeBranch(0));
-        undone(x, "reset", () -> x.reset(1, 0));
-        undone(x, "pick", () -> x.pick(1, 1));
-        undone(x, "addTag", () -> x.addTag('Q', 1));
-        undone(x, "removeTag", () -> x.removeTag('Q'));
-        undone(x, "archive", () -> x.archive());
-        Check.same("archived", x.isArchived(4), true);
-        x.undo();
-        Check.same("not archived", x.isArchived(4), false);
+    private static String letters(LetterRepository x) {
+        StringBuilder letters = new StringBuilder();
+        for (int field = 0; field < 8; field++) {
+            letters.append(x.letterAt(0, field));
+        }
+        return letters.toString();
     }
 
     private static void ring() {
         LetterRepository x = new LetterRepository();
-        String[] stores = new String[21];
+        String[] documents = new String[21];
         for (int i = 0; i < 20; i++) {
-            stores[i] = Check.everything(x);
+            documents[i] = letters(x);
             x.edit(0, i % 8, (char) ('b' + i));
         }
-        stores[20] = Check.everything(x);
+        documents[20] = letters(x);
         for (int i = 0; i < 8; i++) {
             Check.state("a failed run spoils nothing", () -> Check.run(x, "edit 00z;close 0"));
-            Check.same("store", Check.everything(x), stores[20 - i]);
+            Check.same("document", letters(x), documents[20 - i]);
             Check.same("undo", x.undo(), 7 - i);
         }
-        Check.same("store", Check.everything(x), stores[12]);
+        Check.same("document", letters(x), documents[12]);
         Check.state("no more", () -> x.undo());
     }
 
@@ -126,10 +123,10 @@ final class UndoTest {
         Check.same("save", x.save(), 1);
         Check.run(x, "edit 00b;commit 0 1;tag A 0");
         Check.same("save", x.save(), 2);
-        String saved = Check.everything(x);
+        String saved = Refused.content(x);
         Check.run(x, "untag A;branch 0;edit 10q;reset 0 0;archive");
         Check.same("restore", x.restore(), 2);
-        Check.same("the later copy", Check.everything(x), saved);
+        Check.same("the later copy", Refused.content(x), saved);
     }
 
     private static void restore() {
@@ -137,17 +134,17 @@ final class UndoTest {
         Check.state("no copy", () -> x.restore());
         Check.each(x, "edit 00b;commit 0 1;branch 0;edit 11c;commit 1 2;merge 01;tag T 3");
         Check.run(x, "reset 0 0;edit 03q");
-        String saved = Check.everything(x);
+        String saved = Refused.content(x);
         Check.same("save", x.save(), 4);
         Check.run(x, "revert 0;untag T;archive;close 1;edit 07z;commit 0 9");
         Check.same("restore", x.restore(), 4);
-        Check.same("the copy", Check.everything(x), saved);
+        Check.same("the copy", Refused.content(x), saved);
         Check.same("undoableCount", x.undoableCount(), 0);
         Check.state("no undo", () -> x.undo());
         Check.run(x, "revert 0;edit 07y;commit 0 8");
         Check.same("undoableCount", x.undoableCount(), 1);
         Check.same("restore again", x.restore(), 4);
-        Check.same("the copy stays", Check.everything(x), saved);
+        Check.same("the copy stays", Refused.content(x), saved);
         x.formatRevision(0);
         Check.type(x, "archiv");
         x.restore();
@@ -178,21 +175,27 @@ final class UndoTest {
 
     /** A store whose revision 2 was saved as a merge, undone, and made once more as a commit. */
     private static void sameNumbers() {
-        LetterRepository x = Check.after("edit 00b;commit 0 1;branch 0;edit 11c;commit 1 2;merge 01");
-        String saved = Check.everything(x);
+        LetterRepository x = new LetterRepository();
+        x.edit(0, 0, 'b');
+        x.commit(0, 1);
+        x.createBranch(0);
+        x.edit(1, 1, 'c');
+        x.commit(1, 2);
+        x.merge(0, 1);
+        String saved = Refused.content(x);
         x.save();
         for (int i = 0; i < 6; i++) {
             x.undo();
         }
         Check.same("revisionCount", x.revisionCount(), 1);
         Check.each(x, "edit 07z;commit 0 7;edit 06y;commit 0 6;branch 0;edit 15q;commit 1 5");
-        String others = Check.everything(x);
+        String others = Refused.content(x);
         Check.same("generation", x.generation(2), 2);
         x.archive();
         x.undo();
-        Check.same("undo", Check.everything(x), others);
+        Check.same("undo", Refused.content(x), others);
         x.restore();
-        Check.same("restore", Check.everything(x), saved);
+        Check.same("restore", Refused.content(x), saved);
         Check.same("generation", x.generation(2), 1);
         Check.same("ancestors", x.ancestorCount(3), 4);
         Check.same("ancestors", x.ancestorCount(2), 2);
