@@ -20,6 +20,7 @@ public final class AllTests {
         BranchBoundsTest.all();
         StoreBoundsTest.all();
         UndoBoundsTest.all();
+        ConsistencyTest.all();
         ModelTest.all();
         Sentences.compareWith(Path.of(args[0]));
         System.out.println("project: " + Check.passed + " passed, " + Check.failed + " failed");

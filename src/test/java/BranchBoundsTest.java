@@ -169,9 +169,12 @@ final class BranchBoundsTest {
             }
         });
         s.element("there is no such rank", () -> {
-            Refused.element("branchByHead", Stores::plain, Refused.each(Refused.outside(1), r -> x -> x.branchByHead(r)));
-            Refused.element("branchByHead", Stores::small, Refused.each(Refused.outside(4), r -> x -> x.branchByHead(r)));
-            Refused.element("branchByHead", Stores::five, Refused.each(Refused.outside(5), r -> x -> x.branchByHead(r)));
+            Refused.element("branchByHead", Stores::plain,
+                    Refused.each(Refused.outside(1), r -> x -> x.branchByHead(r)));
+            Refused.element("branchByHead", Stores::small,
+                    Refused.each(Refused.outside(4), r -> x -> x.branchByHead(r)));
+            Refused.element("branchByHead", Stores::five,
+                    Refused.each(Refused.outside(5), r -> x -> x.branchByHead(r)));
         });
     }
 

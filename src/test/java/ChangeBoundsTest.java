@@ -58,7 +58,8 @@ final class ChangeBoundsTest {
             Refused.index("edit", Stores::five, Refused.each(Refused.outside(5), b -> x -> x.edit(b, 7, 'q')));
             Refused.index("edit", Stores::five, Refused.each(Refused.outside(8), f -> x -> x.edit(4, f, 'q')));
             Refused.index("edit neither", Stores::small, Refused.each(Refused.outside(8), n -> x -> x.edit(n, n, '-')));
-            Refused.index("edit no letter", Stores::small, Refused.each(Refused.outside(8), f -> x -> x.edit(0, f, 'Q')));
+            Refused.index("edit no letter", Stores::small,
+                    Refused.each(Refused.outside(8), f -> x -> x.edit(0, f, 'Q')));
             Check.same("the last branch and field", Stores.five().edit(4, 7, 'q'), 1);
         });
         s.argument("there is no such letter", () -> {
@@ -157,12 +158,16 @@ final class ChangeBoundsTest {
     private static void createBranch() {
         Sentences s = Sentences.promise(5);
         s.element("there is no such revision, or it is archived", () -> {
-            Refused.element("createBranch", Stores::plain, Refused.each(Refused.outside(1), r -> x -> x.createBranch(r)));
-            Refused.element("createBranch", Stores::small, Refused.each(Refused.outside(6), r -> x -> x.createBranch(r)));
-            Refused.element("createBranch", Stores::full, Refused.each(Refused.outside(24), r -> x -> x.createBranch(r)));
+            Refused.element("createBranch", Stores::plain,
+                    Refused.each(Refused.outside(1), r -> x -> x.createBranch(r)));
+            Refused.element("createBranch", Stores::small,
+                    Refused.each(Refused.outside(6), r -> x -> x.createBranch(r)));
+            Refused.element("createBranch", Stores::full,
+                    Refused.each(Refused.outside(24), r -> x -> x.createBranch(r)));
             Refused.element("archived", Stores::small, x -> x.createBranch(4));
             Refused.element("archived", Stores::single, x -> x.createBranch(1));
-            Refused.element("five branches", Stores::five, Refused.each(Refused.outside(5), r -> x -> x.createBranch(r)));
+            Refused.element("five branches", Stores::five,
+                    Refused.each(Refused.outside(5), r -> x -> x.createBranch(r)));
             Refused.element("five branches, archived", Stores::five, x -> x.createBranch(4));
             Check.same("the revision before", Stores.small().createBranch(3), 4);
             Check.same("the revision behind", Stores.small().createBranch(5), 4);
@@ -313,8 +318,10 @@ final class ChangeBoundsTest {
         Sentences s = Sentences.promise(8);
         s.index("there is no such branch, for either", () -> {
             Refused.index("1st", Stores::small, Refused.each(Refused.outside(4), b -> x -> x.mergeKeeping(b, 1, true)));
-            Refused.index("2nd", Stores::small, Refused.each(Refused.outside(4), b -> x -> x.mergeKeeping(1, b, false)));
-            Refused.index("both", Stores::small, Refused.each(Refused.outside(4), b -> x -> x.mergeKeeping(b, b, true)));
+            Refused.index("2nd", Stores::small,
+                    Refused.each(Refused.outside(4), b -> x -> x.mergeKeeping(1, b, false)));
+            Refused.index("both", Stores::small,
+                    Refused.each(Refused.outside(4), b -> x -> x.mergeKeeping(b, b, true)));
             Refused.index("24 revisions", Stores::full, x -> x.mergeKeeping(0, 3, true),
                     x -> x.mergeKeeping(3, 0, false));
         });
@@ -474,7 +481,8 @@ final class ChangeBoundsTest {
         s.argument("there is no such tag", () -> {
             Refused.characters("addTag", IllegalArgumentException.class, Stores::small, c -> c >= 'A' && c <= 'Z',
                     (x, c) -> x.addTag(c, 0));
-            Refused.argument("no revision", Stores::small, Refused.each(Refused.outside(6), r -> x -> x.addTag('a', r)));
+            Refused.argument("no revision", Stores::small,
+                    Refused.each(Refused.outside(6), r -> x -> x.addTag('a', r)));
             Refused.argument("archived", Stores::small, x -> x.addTag('@', 4), x -> x.addTag('[', 4),
                     x -> x.addTag((char) ('A' + 256), 4), x -> x.addTag((char) 0, 4));
         });

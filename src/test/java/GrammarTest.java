@@ -124,8 +124,9 @@ final class GrammarTest {
                     if (sign % 12 == 0) {
                         x = new LetterRepository();
                     }
-                    compare(x, command.substring(0, place) + sign + command.substring(Math.min(place + 1, command.length())));
-                    compare(x, command.substring(0, place) + sign + command.substring(place));
+                    String before = command.substring(0, place);
+                    compare(x, before + sign + command.substring(place));
+                    compare(x, before + sign + command.substring(Math.min(place + 1, command.length())));
                 }
             }
             for (int length = 0; length < command.length(); length++) {
@@ -278,7 +279,7 @@ final class GrammarTest {
         malformed("th", 2);
         malformed("ta", 2);
         malformed("tb", 1);
-        malformed("untug", 2 + 1);
+        malformed("untug", 3);
         malformed("branch 1;bunch", 10);
         malformed("close 0;close 1;close", 21);
         malformed("commit 0 1;commit 0 A", 20);
@@ -291,12 +292,13 @@ final class GrammarTest {
         for (String keyword : keywords) {
             for (int i = 0; i < keyword.length(); i++) {
                 String before = keyword.substring(0, i);
+                char sign = keyword.charAt(i);
                 malformed(before, i);
-                malformed(before + Character.toUpperCase(keyword.charAt(i)) + "~", keyword.charAt(i) == ' ' ? i + 1 : i);
+                malformed(before + Character.toUpperCase(sign) + "~", sign == ' ' ? i + 1 : i);
                 malformed(before + "0", i);
                 malformed(before + ";", i);
-                compare(new LetterRepository(), before + (char) (keyword.charAt(i) + 1));
-                compare(new LetterRepository(), before + (char) (keyword.charAt(i) - 1 < ' ' ? '!' : keyword.charAt(i) - 1));
+                compare(new LetterRepository(), before + (char) (sign + 1));
+                compare(new LetterRepository(), before + (char) Math.max(sign - 1, ' '));
             }
         }
     }
@@ -403,8 +405,8 @@ final class GrammarTest {
     }
 
     private static void failures() {
-        String[] programs = {"close 9", "archive;commit 0 1", "archive;archive;edit 08z", "branch 4", "branch 0;branch 0",
-            "merge 01", "merge 00", "ours 99", "pick 0 0", "pick 0 99", "reset 3 0", "tag A 0", "tag B 4", "untag B",
+        String[] programs = {"close 9", "archive;commit 0 1", "archive;archive;edit 08z", "branch 4",
+            "branch 0;branch 0", "merge 01", "merge 00", "ours 99", "pick 0 0", "pick 0 99", "reset 3 0", "tag A 0", "tag B 4", "untag B",
             "tag B 0;untag B;untag B", "theirs 03", "revert 4", "merge 02",
             "archive;archive;archive;archive;archive;archive;close 9"};
         int[] indexes = {0, 1, 2, 0, 1, 0, 0, 0, 0, 0, 0, 0, 0, 0, 2, 0, 0, 0, 6};

@@ -76,7 +76,8 @@ final class RevisionBoundsTest {
         });
         Sentences.promise(17).element("there is no such revision, or it has no second parent", () -> {
             noRevision("secondParent", (x, r) -> x.secondParent(r));
-            Refused.element("none", Stores::small, Refused.each(new int[] {0, 1, 2, 4, 5}, r -> x -> x.secondParent(r)));
+            Refused.element("none", Stores::small,
+                    Refused.each(new int[] {0, 1, 2, 4, 5}, r -> x -> x.secondParent(r)));
             Refused.element("none", Stores::full, x -> x.secondParent(23), x -> x.secondParent(0));
             Check.same("a merge", Stores.small().secondParent(3), 2);
             LetterRepository root = Stores.revisions(3);
@@ -124,7 +125,8 @@ final class RevisionBoundsTest {
         s.index("there is no such field", () -> {
             for (int r = 0; r < 6; r++) {
                 int revision = r;
-                Refused.index("letterIn", Stores::small, Refused.each(Refused.outside(8), f -> x -> x.letterIn(revision, f)));
+                Refused.index("letterIn", Stores::small,
+                        Refused.each(Refused.outside(8), f -> x -> x.letterIn(revision, f)));
             }
             Refused.index("the last one", Stores::full, Refused.each(Refused.outside(8), f -> x -> x.letterIn(23, f)));
         });
@@ -151,6 +153,7 @@ final class RevisionBoundsTest {
             }
             Check.same("both parents lead to the same ones", Stores.crossed().ancestorCount(4), 4);
             Check.same("all 24", Check.full().ancestorCount(23), 24);
+            Check.same("all 24, by second parents", Stores.mergesIntoRoot().ancestorCount(23), 24);
         });
         Sentences.promise(22).element("there is no such revision", () -> {
             noRevision("ancestorCount", (x, r) -> x.ancestorCount(r));
@@ -175,6 +178,11 @@ final class RevisionBoundsTest {
             }
             Check.same("only the root", Stores.full().commonAncestor(1, 23), 0);
             Check.same("crossed", Stores.crossed().commonAncestor(4, 3), 2);
+            LetterRepository merges = Stores.mergesIntoRoot();
+            for (int r = 0; r < 24; r++) {
+                Check.same("by second parents", merges.commonAncestor(23, r), r);
+                Check.same("by second parents", merges.commonAncestor(r, 23), r);
+            }
         });
         Sentences.promise(24).test("Returns the same as commonAncestor, but intersects the sets of ancestors of both.",
                 () -> {
@@ -187,6 +195,11 @@ final class RevisionBoundsTest {
             }
             Check.same("only the root", Stores.full().commonAncestorBySets(1, 23), 0);
             Check.same("crossed", Stores.crossed().commonAncestorBySets(3, 4), 2);
+            LetterRepository merges = Stores.mergesIntoRoot();
+            for (int r = 0; r < 24; r++) {
+                Check.same("by second parents", merges.commonAncestorBySets(23, r), r);
+                Check.same("by second parents", merges.commonAncestorBySets(r, 23), r);
+            }
         });
     }
 
@@ -201,6 +214,11 @@ final class RevisionBoundsTest {
                 Check.same("from the last", chain.distance(23, r), 23 - r);
             }
             Check.same("by way of the root", Stores.full().distance(1, 23), 23);
+            LetterRepository merges = Stores.mergesIntoRoot();
+            for (int r = 1; r < 24; r++) {
+                Check.same("a step to the first parent", merges.distance(r, 0), 1);
+                Check.same("to the second parent, or by way of the root", merges.distance(23, r), Math.min(2, 23 - r));
+            }
             int[][] due = {{0, 1, 1, 2, 3, 1}, {1, 0, 2, 1, 2, 2}, {1, 2, 0, 1, 2, 2}, {2, 1, 1, 0, 1, 3},
                 {3, 2, 2, 1, 0, 4}, {1, 2, 2, 3, 4, 0}};
             LetterRepository x = Stores.small();
@@ -323,8 +341,10 @@ final class RevisionBoundsTest {
             Refused.argument("revisionsBy", Stores::small, y -> y.revisionsBy(10), y -> y.revisionsBy(-1));
         });
         s.argument("the author is out of range", () -> {
-            Refused.argument("revisionsBy", Stores::plain, Refused.each(Refused.outside(10), a -> x -> x.revisionsBy(a)));
-            Refused.argument("revisionsBy", Stores::full, Refused.each(Refused.outside(10), a -> x -> x.revisionsBy(a)));
+            Refused.argument("revisionsBy", Stores::plain,
+                    Refused.each(Refused.outside(10), a -> x -> x.revisionsBy(a)));
+            Refused.argument("revisionsBy", Stores::full,
+                    Refused.each(Refused.outside(10), a -> x -> x.revisionsBy(a)));
         });
         Sentences.promise(30).test("Of several such authors it is the lowest one.", () -> {
             LetterRepository all = new LetterRepository();

@@ -50,6 +50,11 @@ final class StoreBoundsTest {
         x.removeTag('A');
         Check.same("the last tag", count.of(x), 4);
         Check.same("five branches", count.of(Stores.five()), 4);
+        LetterRepository merges = Stores.mergesIntoRoot();
+        for (int r = 23; r >= 1; r--) {
+            merges.reset(0, r);
+            Check.same("by second parents", count.of(merges), r + 1);
+        }
     }
 
     private static void meanGeneration() {
@@ -221,7 +226,8 @@ final class StoreBoundsTest {
         });
         s.argument("both are the same", () -> {
             Refused.argument("one", Stores::plain, x -> x.formatMerge(0, 0));
-            Refused.argument("five", Stores::five, Refused.each(new int[] {0, 1, 2, 3, 4}, b -> x -> x.formatMerge(b, b)));
+            Refused.argument("five", Stores::five,
+                    Refused.each(new int[] {0, 1, 2, 3, 4}, b -> x -> x.formatMerge(b, b)));
         });
     }
 

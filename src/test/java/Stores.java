@@ -133,6 +133,23 @@ final class Stores {
         return x;
     }
 
+    /**
+     * 24 revisions: 1 baaaaaaa is a commit, and each later one is a merge of the one before it into the root. The heads
+     * are 23 and the root.
+     */
+    static LetterRepository mergesIntoRoot() {
+        LetterRepository x = new LetterRepository();
+        x.createBranch(0);
+        x.edit(0, 0, 'b');
+        x.commit(0, 1);
+        for (int r = 2; r < 24; r++) {
+            int branch = (r + 1) % 2;
+            Check.same("merge", x.merge(branch, 1 - branch), r);
+            x.reset(1 - branch, 0);
+        }
+        return x;
+    }
+
     private static void mark(LetterRepository x) {
         x.save();
         Check.argument("malformed", () -> Check.run(x, "tagA"));

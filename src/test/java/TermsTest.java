@@ -202,6 +202,11 @@ final class TermsTest {
             Check.same("ancestors of " + second, found.toString(), due[second]);
             Check.same("their number", x.ancestorCount(second), due[second].length());
         }
+        LetterRepository merges = Stores.mergesIntoRoot();
+        for (int r = 0; r < 24; r++) {
+            Check.same("by second parents", merges.isAncestor(r, 23), true);
+            Check.same("their number", merges.ancestorCount(r), r + 1);
+        }
         LetterRepository chain = Check.full();
         for (int r = 0; r < 24; r++) {
             Check.same("on a chain", chain.isAncestor(r, 23), true);
@@ -214,6 +219,10 @@ final class TermsTest {
         LetterRepository chain = Check.full();
         for (int r = 0; r < 24; r++) {
             Check.same("on a chain", chain.generation(r), r);
+        }
+        LetterRepository merges = Stores.mergesIntoRoot();
+        for (int r = 0; r < 24; r++) {
+            Check.same("by second parents", merges.generation(r), r);
         }
         Check.same("equal parents", Stores.small().generation(3), 2);
         LetterRepository x = Stores.revisions(8);
@@ -377,9 +386,17 @@ final class TermsTest {
         LetterRepository all = Stores.sides("mmmmmmmm", "mmmmmmmm", "abcdefgh");
         Check.same("all fields", all.pick(0, 2), 8);
         Check.same("branch", Check.branch(all, 0), "b0:1 ABCDEFGH");
-        LetterRepository none = Stores.sides("aaaaaaaa", "bbaaaaaa", "abaaaaaa");
-        Check.same("merge", none.mergeKeeping(1, 0, true), 3);
-        Check.same("a change of one field", none.createBranch(0) + none.pick(2, 3), 3);
+        LetterRepository one = Stores.sides("aaaaaaaa", "bbaaaaaa", "abaaaaaa");
+        Check.same("merge", one.mergeKeeping(1, 0, true), 3);
+        Check.same("a branch at the root", one.createBranch(0), 2);
+        Check.same("a change of one field", one.pick(2, 3), 1);
+        Check.same("branch", Check.branch(one, 2), "b2:0 Baaaaaaa");
+        LetterRepository none = Stores.sides("mmmmmmmm", "nmmmmmmm", "nmmmmmmm");
+        Check.same("merge", none.merge(0, 1), 4);
+        Check.same("a branch at the root", none.createBranch(0), 2);
+        Check.same("an empty change, which nothing blocks", none.canPick(2, 4), true);
+        Check.same("an empty change", none.pick(2, 4), 0);
+        Check.same("branch", Check.branch(none, 2), "b2:0 aaaaaaaa");
     }
 
     private static void picked() {
