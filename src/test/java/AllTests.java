@@ -1,6 +1,6 @@
 import java.nio.file.Path;
 
-/** Runs every test of the project; its argument is the path of the document. */
+/** Runs every test of the project; its arguments are the path of the document and that of the project. */
 public final class AllTests {
     private AllTests() {
     }
@@ -21,6 +21,7 @@ public final class AllTests {
         StoreBoundsTest.all();
         UndoBoundsTest.all();
         ConsistencyTest.all();
+        ReadmeTest.all(Path.of(args[1]));
         ModelTest.all();
         Sentences.compareWith(Path.of(args[0]));
         System.out.println("project: " + Check.passed + " passed, " + Check.failed + " failed");
