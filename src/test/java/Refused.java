@@ -1,15 +1,9 @@
-import java.util.ArrayList;
 import java.util.Arrays;
-import java.util.List;
 import java.util.NoSuchElementException;
 import java.util.function.IntFunction;
 import java.util.stream.IntStream;
 
-/**
- * Calls that are refused, on stores that are made twice: one with the calls, one without them. Both must look the same
- * from every side. Each side has two stores of its own, since looking there changes them, and since a store lasts for
- * 512 calls.
- */
+/** Calls that are refused: each throws the exception that is due, and no side of the store shows that it was called. */
 final class Refused {
     /** Makes a store; each time the same one. */
     interface Recipe {
@@ -26,10 +20,6 @@ final class Refused {
 
     interface CharSet {
         boolean contains(char character);
-    }
-
-    private interface Side {
-        String of(LetterRepository x);
     }
 
     private static final int MOST_AT_ONCE = 60;
@@ -61,13 +51,11 @@ final class Refused {
     }
 
     private static void refuseFew(String name, Class<?> due, Recipe recipe, Call[] calls) {
-        for (Side side : sides()) {
-            LetterRepository called = recipe.make();
+        Sides.allSame("refused " + name, recipe, called -> {
             for (Call call : calls) {
                 Check.throwing(name, due, () -> call.on(called));
             }
-            Check.same("the store behind the refused " + name, side.of(called), side.of(recipe.make()));
-        }
+        });
     }
 
     /** Tries each of the 65536 characters: the call is refused for all that are not allowed. */
@@ -97,26 +85,6 @@ final class Refused {
         return IntStream.of(values).mapToObj(call).toArray(Call[]::new);
     }
 
-    private static List<Side> sides() {
-        List<Side> sides = new ArrayList<>();
-        sides.add(x -> surface(x) + content(x));
-        sides.add(Refused::derived);
-        sides.add(x -> answer(() -> x.append('~')) + surface(x) + answer(x::run) + answer(x::errorPosition));
-        sides.add(x -> answer(x::run) + surface(x) + content(x));
-        sides.add(x -> answer(x::restore) + answer(x::undoableCount) + content(x));
-        for (int undone = 1; undone <= 8; undone++) {
-            int count = undone;
-            sides.add(x -> {
-                StringBuilder text = new StringBuilder();
-                for (int i = 0; i < count; i++) {
-                    text.append(answer(x::undo));
-                }
-                return text + content(x);
-            });
-        }
-        return sides;
-    }
-
     interface Question {
         Object ask();
     }
@@ -138,19 +106,6 @@ final class Refused {
                 return line.toString();
             }
         }
-    }
-
-    private static String surface(LetterRepository x) {
-        return line(x) + "/" + answer(x::undoableCount) + answer(x::errorPosition) + answer(x::failedCommand);
-    }
-
-    private static String derived(LetterRepository x) {
-        StringBuilder text = new StringBuilder();
-        for (int r = 0; r < x.revisionCount(); r++) {
-            text.append(x.generation(r)).append(' ').append(x.ancestorCount(r)).append(' ');
-        }
-        return text.append(x.usedCount()).append(' ').append(x.tagCount()).append(' ').append(x.isConsistent())
-                .toString();
     }
 
     /** Revisions, branches and tags, read without a change of the line. */

@@ -158,6 +158,11 @@ final class RevisionsTest {
         Check.same("r3", Check.revision(x, 3), "r3 bcaaaaaa @2 <1+2");
         Check.same("r4", Check.revision(x, 4), "r4 bcaaaaaa @1 <2+1");
         common(x, 3, 4, 2);
+        LetterRepository skewed = Stores.skewed();
+        Check.same("2 has the greater generation", skewed.generation(2), skewed.generation(3) + 1);
+        common(skewed, 4, 5, 3);
+        common(skewed, 6, 5, 3);
+        common(skewed, 6, 2, 2);
     }
 
     private static void steps(LetterRepository x, int first, int second, int due) {

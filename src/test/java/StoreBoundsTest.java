@@ -97,7 +97,7 @@ final class StoreBoundsTest {
     private static void isConsistent() {
         Sentences.promise(49).test("Returns true if all these checks succeed.", () -> {
             Refused.Recipe[] recipes = {LetterRepository::new, Stores::plain, Stores::single, Stores::small,
-                Stores::five, Stores::crossed, Stores::full, Check::full};
+                Stores::five, Stores::crossed, Stores::skewed, Stores::full, Check::full};
             for (Refused.Recipe recipe : recipes) {
                 LetterRepository x = recipe.make();
                 Check.same("isConsistent", x.isConsistent(), true);

@@ -1,4 +1,7 @@
-/** Stores that many tests begin with. Each has a saved copy, a line, an input buffer and both stored positions. */
+/**
+ * Stores that many tests begin with. Where nothing else is said, each has a saved copy, a line, an input buffer and
+ * both stored positions.
+ */
 final class Stores {
     private Stores() {
     }
@@ -8,6 +11,22 @@ final class Stores {
      * are 1 baaaaaaa, 2 acaaaaaa, 3 bcaaaaaa (2 merged into 1), 4 bcdaaaaa (archived), 5 xaaaaaaw.
      */
     static LetterRepository small() {
+        return small(true);
+    }
+
+    /**
+     * The same with a revision 6 more, which is neither in use nor archived; it was never marked: there is neither a saved
+     * copy nor a stored position, the line and the buffer are empty.
+     */
+    static LetterRepository unmarked() {
+        LetterRepository x = small(false);
+        x.edit(2, 1, 'k');
+        x.commit(2, 8);
+        x.reset(2, 5);
+        return x;
+    }
+
+    private static LetterRepository small(boolean isMarked) {
         LetterRepository x = new LetterRepository();
         x.edit(0, 0, 'b');
         x.commit(0, 1);
@@ -21,7 +40,9 @@ final class Stores {
         x.reset(2, 0);
         x.archive();
         x.addTag('A', 1);
-        mark(x);
+        if (isMarked) {
+            mark(x);
+        }
         x.edit(2, 0, 'x');
         x.edit(2, 7, 'w');
         x.commit(2, 4);
@@ -129,6 +150,25 @@ final class Stores {
         x.createBranch(1);
         x.merge(0, 1);
         x.merge(1, 2);
+        mark(x);
+        return x;
+    }
+
+    /**
+     * Two merges of 2 bcaaaaaa, of generation 2, and 3 aadaaaaa, of generation 1, the other way round in each: 4 in
+     * branch 0, behind which follows its head 6 xcdaaaaa, and 5 in branch 1, its head. So 3 is the common ancestor of the
+     * heads, though 2 is one of a greater generation.
+     */
+    static LetterRepository skewed() {
+        LetterRepository x = new LetterRepository();
+        put(x, 0, "baaaaaaa");
+        put(x, 0, "bcaaaaaa");
+        x.createBranch(0);
+        put(x, 1, "aadaaaaa");
+        x.createBranch(2);
+        x.merge(0, 1);
+        x.merge(1, 2);
+        put(x, 0, "xcdaaaaa");
         mark(x);
         return x;
     }

@@ -234,7 +234,8 @@ final class TermsTest {
 
     private static void commonAncestors() {
         Check.same("crossed merges", Stores.crossed().commonAncestor(3, 4), 2);
-        Refused.Recipe[] recipes = {Stores::small, Stores::crossed, Stores::five, () -> Stores.revisions(9)};
+        Refused.Recipe[] recipes = {Stores::small, Stores::crossed, Stores::skewed, Stores::five,
+            () -> Stores.revisions(9)};
         for (Refused.Recipe recipe : recipes) {
             int count = recipe.make().revisionCount();
             for (int first = 0; first < count; first++) {
@@ -343,6 +344,12 @@ final class TermsTest {
         Check.same("the documents of the heads", Check.merged(x, 0, 1), "baaaaaaa");
         Check.same("an ancestor as the other head", Check.merged(x, 0, 2), "aaaaaaaa");
         Check.same("an ancestor as the head", Check.merged(x, 2, 0), "aaaaaaaa");
+        LetterRepository skewed = Stores.skewed();
+        Check.same("the base is revision 3, aadaaaaa", Check.merged(skewed, 0, 1), "?cdaaaaa");
+        Check.same("the other way", Check.merged(skewed, 1, 0), "?cdaaaaa");
+        Check.same("the conflict", skewed.conflictAt(0, 1, 0), 0);
+        Refused.state("merge", Stores::skewed, y -> y.merge(0, 1), y -> y.merge(1, 0));
+        Check.same("isConsistent", skewed.isConsistent(), true);
     }
 
     private static String turned(String text, int by) {

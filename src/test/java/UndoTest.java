@@ -151,6 +151,11 @@ final class UndoTest {
         Check.same("the line stays", Check.line(x, 14), "r0 aaaaaaaa @0");
         Check.same("the buffer stays", x.append('e'), 7);
         Check.same("run", x.run(), 1);
+        Check.argument("malformed", () -> Check.run(x, "arch"));
+        Check.state("fails", () -> Check.run(x, "archive;close 9"));
+        x.restore();
+        Check.same("the error position stays", x.errorPosition(), 4);
+        Check.same("the failed command stays", x.failedCommand(), 1);
     }
 
     private static void undoneIsGone() {
