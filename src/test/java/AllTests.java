@@ -20,6 +20,7 @@ public final class AllTests {
         BranchBoundsTest.all();
         StoreBoundsTest.all();
         UndoBoundsTest.all();
+        UnchangedTest.all();
         AnsweredTest.all();
         ConsistencyTest.all();
         ReadmeTest.all(Path.of(args[1]));

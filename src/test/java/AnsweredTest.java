@@ -81,10 +81,21 @@ final class AnsweredTest {
 
     private static void questions() {
         ask().forEach((name, call) -> onBoth(name, call));
-        Sides.allSame("lineChar", Stores::small, x -> x.lineChar(3));
-        Sides.allSame("errorPosition", Stores::small, x -> x.errorPosition());
-        Sides.allSame("failedCommand", Stores::small, x -> x.failedCommand());
+        for (Refused.Recipe recipe : new Refused.Recipe[] {Stores::small, AnsweredTest::unsaved}) {
+            Sides.allSame("lineChar", recipe, x -> x.lineChar(3));
+            Sides.allSame("errorPosition", recipe, x -> x.errorPosition());
+            Sides.allSame("failedCommand", recipe, x -> x.failedCommand());
+        }
         Sides.allSame("all of them", Stores::small, x -> ask().forEach((name, call) -> call.on(x)));
+    }
+
+    /** A line and both positions are stored, but no copy is saved. */
+    private static LetterRepository unsaved() {
+        LetterRepository x = Stores.unmarked();
+        Check.argument("malformed", () -> Check.run(x, "tagA"));
+        Check.state("fails", () -> Check.run(x, "archive;close 9"));
+        x.formatBranch(3);
+        return x;
     }
 
     private static void formatting() {

@@ -15,8 +15,8 @@ final class Stores {
     }
 
     /**
-     * The same with a revision 6 more, which is neither in use nor archived; it was never marked: there is neither a saved
-     * copy nor a stored position, the line and the buffer are empty.
+     * The same with a revision 6 more, which is neither in use nor archived; it was never marked: there is neither a
+     * saved copy nor a stored position, the line and the buffer are empty.
      */
     static LetterRepository unmarked() {
         LetterRepository x = small(false);
@@ -156,8 +156,8 @@ final class Stores {
 
     /**
      * Two merges of 2 bcaaaaaa, of generation 2, and 3 aadaaaaa, of generation 1, the other way round in each: 4 in
-     * branch 0, behind which follows its head 6 xcdaaaaa, and 5 in branch 1, its head. So 3 is the common ancestor of the
-     * heads, though 2 is one of a greater generation.
+     * branch 0, behind which follows its head 6 xcdaaaaa, and 5 in branch 1, its head. So 3 is the common ancestor of
+     * the heads, though 2 is one of a greater generation.
      */
     static LetterRepository skewed() {
         LetterRepository x = new LetterRepository();

@@ -1,4 +1,4 @@
-/** The sentences of the document's terms, but for those of commands (GrammarTest). */
+/** The sentences of the document's terms, but for those of commands (GrammarTest), and for UnchangedTest's. */
 final class TermsTest {
     private static final Sentences TERMS = Sentences.of("Terms");
 
@@ -14,8 +14,6 @@ final class TermsTest {
         mergingAndPicking();
         tagsAndArchive();
         undo();
-        TERMS.test("A method that throws an exception leaves the store unchanged, unless its description says "
-                + "otherwise.", TermsTest::unchanged);
         TERMS.test("If several conditions of a method apply, the exception that is listed first is thrown.",
                 TermsTest::listedFirst);
     }
@@ -586,26 +584,6 @@ final class TermsTest {
         Check.element("no failed command", () -> empty.failedCommand());
         Check.index("an empty line", () -> empty.lineChar(0));
         Check.same("an empty buffer", empty.append('a'), 1);
-    }
-
-    private static void unchanged() {
-        Refused.index("no branch", Stores::small, x -> x.edit(4, 0, 'b'), x -> x.revert(4), x -> x.commit(4, 0),
-                x -> x.closeBranch(4), x -> x.merge(0, 4), x -> x.mergeKeeping(4, 0, true), x -> x.pick(4, 1),
-                x -> x.reset(4, 1), x -> x.formatBranch(4), x -> x.formatMerge(4, 0), x -> x.lineChar(14));
-        Refused.argument("no argument", Stores::small, x -> x.edit(0, 0, 'A'), x -> x.commit(3, 10),
-                x -> x.merge(0, 0), x -> x.mergeKeeping(1, 1, false), x -> x.addTag('a', 0), x -> x.revisionsBy(10),
-                x -> x.formatMerge(2, 2), x -> x.append((char) 127));
-        Refused.element("no element", Stores::small, x -> x.createBranch(6), x -> x.pick(0, 6), x -> x.reset(0, 6),
-                x -> x.addTag('B', 6), x -> x.removeTag('B'), x -> x.formatRevision(6), x -> x.conflictAt(0, 2, 1));
-        Refused.state("not in this state", Stores::small, x -> x.commit(0, 1), x -> x.merge(0, 2), x -> x.merge(0, 1),
-                x -> x.merge(0, 3), x -> x.mergeKeeping(0, 1, true), x -> x.pick(0, 0), x -> x.reset(3, 1),
-                x -> x.addTag('A', 0));
-        Refused.state("single", Stores::single, x -> x.closeBranch(0), x -> x.pick(0, 0), x -> x.reset(0, 0));
-        Refused.state("five", Stores::five, x -> x.createBranch(0));
-        Refused.state("full", Stores::full, x -> x.commit(2, 1), x -> x.merge(0, 1));
-        Refused.state("never saved", Stores::plain, x -> x.restore());
-        Refused.element("never stored", Stores::plain, x -> x.errorPosition(), x -> x.failedCommand());
-        Refused.state("new", LetterRepository::new, x -> x.undo(), x -> x.restore(), x -> x.closeBranch(0));
     }
 
     private static void listedFirst() {

@@ -176,6 +176,7 @@ final class UndoBoundsTest {
         s.state("there is no saved copy", () -> {
             Refused.state("new", LetterRepository::new, x -> x.restore());
             Refused.state("changed", Stores::plain, x -> x.restore());
+            Refused.state("seven revisions", Stores::unmarked, x -> x.restore());
             Refused.state("undone", () -> undone(Stores.plain(), 1), x -> x.restore());
             Refused.state("twelve changes", () -> {
                 LetterRepository x = new LetterRepository();
