@@ -43,6 +43,9 @@ final class UnchangedTest {
     }
 
     private static void inOtherStates() {
+        Refused.element("no error position alone", () -> allBut("error"), x -> x.errorPosition());
+        Refused.element("no failed command alone", () -> allBut("failed"), x -> x.failedCommand());
+        Refused.state("no saved copy alone", () -> allBut("saved"), x -> x.restore());
         Refused.element("never stored", Stores::unmarked, x -> x.errorPosition(), x -> x.failedCommand());
         Refused.element("never stored", Stores::plain, x -> x.errorPosition(), x -> x.failedCommand());
         Refused.state("never saved", Stores::unmarked, x -> x.restore());
@@ -55,14 +58,33 @@ final class UnchangedTest {
         Refused.state("five, with a revision that is not in use", () -> {
             LetterRepository x = Stores.unmarked();
             x.createBranch(0);
+            x.edit(4, 3, 'e');
             return x;
         }, x -> x.createBranch(0));
         Refused.state("full", Stores::full, x -> x.commit(2, 1), x -> x.merge(0, 1));
         Refused.state("a full buffer", () -> {
-            LetterRepository x = Stores.unmarked();
-            Check.type(x, "edit 00b;archive;archive;archive;archive;archive;branch 0123");
+            LetterRepository x = Stores.small();
+            Check.type(x, "vert 0;archive;archive;archive;archive;archive;branch 0123");
             return x;
         }, x -> x.append('a'));
+    }
+
+    /** A saved copy, a line, an input buffer and both stored positions, but for the one that is left out. */
+    private static LetterRepository allBut(String leftOut) {
+        LetterRepository x = Stores.unmarked();
+        if (!leftOut.equals("saved")) {
+            x.save();
+        }
+        if (!leftOut.equals("error")) {
+            Check.argument("malformed", () -> Check.run(x, "tagA"));
+        }
+        if (!leftOut.equals("failed")) {
+            Check.state("fails", () -> Check.run(x, "archive;close 9"));
+        }
+        x.formatBranch(3);
+        Check.type(x, "archive");
+        x.edit(0, 0, 'v');
+        return x;
     }
 
     /** No change can be undone, and the revision 6 is neither in use nor archived. */
