@@ -12,6 +12,7 @@ final class UndoTest {
         Check.test("promise 59: what was undone cannot be asked for", UndoTest::undoneIsGone);
         Check.test("promise 60", UndoTest::save);
         Check.test("promise 61", UndoTest::restore);
+        Check.test("promise 61: the stored positions", UndoTest::storedPositions);
         Check.test("promises 59 and 61: other revisions with the same numbers", UndoTest::sameNumbers);
     }
 
@@ -151,6 +152,11 @@ final class UndoTest {
         Check.same("the line stays", Check.line(x, 14), "r0 aaaaaaaa @0");
         Check.same("the buffer stays", x.append('e'), 7);
         Check.same("run", x.run(), 1);
+    }
+
+    private static void storedPositions() {
+        LetterRepository x = new LetterRepository();
+        x.save();
         Check.argument("malformed", () -> Check.run(x, "arch"));
         Check.state("fails", () -> Check.run(x, "archive;close 9"));
         x.restore();
